@@ -895,13 +895,15 @@ public final class LispForge {
         private void follow(Form written, Replacement around) {
             seen = written;
             seenWithin = around;
-            while (seen != null && seen.kind == SYMBOL && seenWithin != null) {
-                Form argument = seenWithin.argumentFor(seen.value);
+            for (Replacement here = around; here != null; here = here.around) {
+                Form argument = seen == null || seen.kind != SYMBOL
+                        ? null : here.argumentFor(seen.value);
                 if (argument == null) {
                     return;
                 }
+                // An argument is written where the macro is used, outside of its body.
                 seen = argument;
-                seenWithin = seenWithin.around;
+                seenWithin = here.around;
             }
         }
 
@@ -950,7 +952,7 @@ public final class LispForge {
         }
 
         private int gatherCalledBy(Unit unit) {
-            for (int k = 0; k < unit.fixNames.length; k++) {
+            for (int k = 0; k < unit.fixNames.length && k < unit.fixPlaces.length; k++) {
                 Unit called = shelf.latest(FUNCTION, unit.fixNames[k]);
                 if (called == null) {
                     return NO_FUNCTION;

@@ -44,6 +44,8 @@ public final class CodeTest {
         checkCode("(* 1 2)", "0 0 1 0 0 2 4 14");
         checkCode("(< 1 2)", "0 0 1 0 0 2 5 14");
         checkCode("(= 1 2)", "0 0 1 0 0 2 6 14");
+        checkCode("(+ -1 23)", "0 255 255 0 0 23 2 14");
+        checkCode("(- -12 -34)", "0 255 244 0 255 222 3 14");
         checkCode("(- (+ 1 2) (* 3 4))", "0 0 1 0 0 2 2 0 0 3 0 0 4 4 3 14");
         checkCode("(do 7)", "0 0 7 14");
         checkCode("(do 1 2 3)", "0 0 1 10 0 0 2 10 0 0 3 14");

@@ -4,6 +4,8 @@ public final class LinkTest {
         checkMainAlone();
         checkOrder();
         checkPlaces();
+        checkPlacesBehindEachStep();
+        checkHighPlaces();
         checkLatest();
         checkFailures();
         checkFirstFailureMet();
@@ -46,6 +48,48 @@ public final class LinkTest {
         Trial.due("link of numbers", 24 + 13, other.link());
         Trial.due("image of numbers", "0 0 1 12 0 24 1 8 0 20 0 0 7 0 0 8 2 7 0 23 0 0 12 14"
                 + " 0 0 7 0 0 8 0 0 12 2 2 13 1", other.image());
+    }
+
+    /** A step that is taken for a longer one would hide the 8 that comes next. */
+    private static void checkPlacesBehind(String condition, String code) {
+        Trial trial = new Trial().with("(def g (a) (if " + condition + " 5 6))", "(g 1)");
+        trial.link();
+        int other = 8 + code.split(" ").length + 9;
+        Trial.due("image of " + condition, "0 0 1 12 0 8 1 14 " + code + " 8 0 " + other
+                + " 0 0 5 7 0 " + (other + 3) + " 0 0 6 13 1", trial.image());
+    }
+
+    private static void checkPlacesBehindEachStep() {
+        checkPlacesBehind("7", "0 0 7");
+        checkPlacesBehind("a", "1 0");
+        checkPlacesBehind("(+ a a)", "1 0 1 0 2");
+        checkPlacesBehind("(- a a)", "1 0 1 0 3");
+        checkPlacesBehind("(* a a)", "1 0 1 0 4");
+        checkPlacesBehind("(< a a)", "1 0 1 0 5");
+        checkPlacesBehind("(= a a)", "1 0 1 0 6");
+        checkPlacesBehind("(let x 1 x)", "0 0 1 1 1 9");
+        checkPlacesBehind("(set a 3)", "0 0 3 11 0");
+        checkPlacesBehind("(g 4)", "0 0 4 12 0 8 1");
+        checkPlacesBehind("(do 7 8)", "0 0 7 10 0 0 8");
+    }
+
+    private static void checkHighPlaces() {
+        Trial trial = new Trial().with("(def f () (do" + Trial.repeat(" 1", 49) + "))",
+                "(def g (n) (do" + Trial.repeat(" 1", 45) + " n))",
+                "(def h (n) (if n (h (- n 1)) 4))", "(do (f) (g 2) (h 3))");
+        Trial.due("link", 21 + 197 + 184 + 23, trial.link());
+        StringBuilder last = new StringBuilder();
+        for (int k = 402; k < 425; k++) {
+            last.append(k == 402 ? "" : " ").append(trial.forge.image(k));
+        }
+        // 402 is 1 and 146.
+        Trial.due("the last function", "1 0 8 1 164 1 0 0 0 1 3 12 1 146 1 7 1 167 0 0 4 13 1",
+                last.toString());
+        Trial.due("main's call of it", 1, trial.forge.image(17));
+        Trial.due("main's call of it, lower", 146, trial.forge.image(18));
+        trial.run(500);
+        Trial.due("done", 2, trial.forge.about(0));
+        Trial.due("result", 4, trial.forge.top());
     }
 
     private static void checkLatest() {

@@ -139,23 +139,23 @@ public final class MachineTest {
     }
 
     private static void checkRestart() {
-        Trial trial = new Trial().with("(def f (a) (+ a 1))", "(f 4)");
+        Trial trial = new Trial().with("(def f (a) (+ a 1))", "(let x 2 (* x (f 4)))");
         Trial.due("no image", false, trial.forge.restart());
         Trial.due("idle", 0, trial.forge.about(0));
         trial.link();
-        for (int steps : new int[] {0, 1, 2, 4, 500}) {
+        for (int steps : new int[] {0, 1, 2, 5, 500}) {
             trial.run(steps);
             Trial.due("restart", true, trial.forge.restart());
             Trial.due("the beginning", "1 0 0 0 0 0", trial.about());
             Trial.due("no top", 0, trial.forge.top());
             Trial.due("no number", 0, trial.forge.stack(0));
         }
-        Trial.due("runs again", 7, trial.run(500));
-        Trial.due("to the same end", 5, trial.forge.top());
+        Trial.due("runs again", 11, trial.run(500));
+        Trial.due("to the same end", 10, trial.forge.top());
         trial.with("(g)");
         trial.link();
         Trial.due("restart behind a failed link", true, trial.forge.restart());
-        Trial.due("the old image", 7, trial.run(500));
+        Trial.due("the old image", 11, trial.run(500));
     }
 
     private static void checkFullCallStack() {

@@ -38,6 +38,7 @@ public final class UnitTest {
         checkNumbers();
         checkSixteenUnits();
         checkCodeLength();
+        checkNothingBoundBefore();
         checkClear();
         Trial.end();
     }
@@ -90,9 +91,27 @@ public final class UnitTest {
                 trial.compile("(def f (a) (do" + Trial.repeat(" 1", 49) + " a))"));
         Trial.due("a main of 202", Trial.WRONG,
                 trial.compile("(do" + Trial.repeat(" 1", 48) + "(let x 1(set x 1)))"));
-        // 13 times 15 bytes, 4 of them a call's, and 5 behind them.
-        trial.with("(mac c () (do (f) (f) (f)))");
-        Trial.due("49 calls", 3, trial.compile("(do" + Trial.repeat("(c)", 12) + "(f)(f)(f)(f))"));
+        trial.with("(mac c () (wxyz (wxyz) (wxyz) (wxyz) (wxyz)))");
+        Trial.due("49 calls", 3,
+                trial.compile("(wxyz" + Trial.repeat("(c)", 9) + "(wxyz)(wxyz)(wxyz))"));
+        Trial.due("their object", 5 + 197 + 1 + 49 * 7, trial.forge.object(3, -1));
+        Trial.due("their number", 49, trial.forge.object(3, 5 + 197));
+        Trial.due("the last letter", 'z', trial.forge.object(3, 5 + 197 + 49 * 7));
+        Trial.due("50 calls", Trial.WRONG,
+                trial.compile("(wxyz" + Trial.repeat("(c)", 9) + "(wxyz)(wxyz)(wxyz)(wxyz))"));
+    }
+
+    /** What one unit binds, also a wrong one, is not bound in the next. */
+    private static void checkNothingBoundBefore() {
+        Trial trial = new Trial();
+        Trial.due("a function", 0, trial.compile("(def f (a b) (let c 1 c))"));
+        for (String name : new String[] {"a", "b", "c"}) {
+            Trial.due(name + " behind it", Trial.WRONG, trial.compile(name));
+        }
+        Trial.due("a wrong let", Trial.WRONG, trial.compile("(let d 1 (let e 2 q))"));
+        for (String name : new String[] {"d", "e"}) {
+            Trial.due(name + " behind it", Trial.WRONG, trial.compile(name));
+        }
     }
 
     private static void checkClear() {
