@@ -71,6 +71,8 @@ public final class LinkTest {
         checkPlacesBehind("(set a 3)", "0 0 3 11 0");
         checkPlacesBehind("(g 4)", "0 0 4 12 0 8 1");
         checkPlacesBehind("(do 7 8)", "0 0 7 10 0 0 8");
+        checkPlacesBehind("(if a a a)", "1 0 8 0 18 1 0 7 0 20 1 0");
+        checkPlacesBehind("(run a a)", "1 0 8 0 19 1 0 10 7 0 8 0 0 0");
     }
 
     private static void checkHighPlaces() {

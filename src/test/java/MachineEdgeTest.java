@@ -10,6 +10,7 @@ public final class MachineEdgeTest {
             "(def f (n) (if n (+ 1 (+ 1 (+ 1 (+ 1 (f (- n 1)))))) 1))";
 
     public static void main(String[] args) {
+        newObjectHasNothing();
         newObjectIsIdle();
         numbersHaveASign();
         sumsWrap();
@@ -53,7 +54,21 @@ public final class MachineEdgeTest {
         Trial.due("result of " + what, due, trial.forge.top());
     }
 
-    /** "No text, units, macros, image; the machine is idle." */
+    /** "No text, units, macros, image". */
+    private static void newObjectHasNothing() {
+        Trial trial = new Trial();
+        for (int k = -1; k <= 1; k++) {
+            Trial.due("no object, " + k, -1, trial.forge.object(0, k));
+            Trial.due("no image, " + k, k == -1 ? 0 : -1, trial.forge.image(k));
+        }
+        Trial.due("no text", Trial.NO_FORM, trial.compile());
+        Trial.due("not even a blank", 0, trial.forge.position());
+        Trial.due("no main", Trial.REFUSED, trial.link());
+        Trial.due("no unit before the first", 0, trial.compile("(m)"));
+        Trial.due("no macro", "0 0 0 0 5 12 0 0 0 14 1 0 1 1 109", trial.object(0));
+    }
+
+    /** "the machine is idle". */
     private static void newObjectIsIdle() {
         Trial trial = new Trial();
         Trial.due("about", "0 0 0 0 0 0", trial.about());
